@@ -1,3 +1,4 @@
+import java.util.Arrays;
 import java.util.NoSuchElementException;
 
 /** Promises 24 to 31. */
@@ -37,7 +38,7 @@ public final class FreeTimesTest {
     private static void freeAndMeetingOf() {
         CalendaryPlanner planner = aPlanner();
         boolean[] due = new boolean[16];
-        java.util.Arrays.fill(due, true);
+        Arrays.fill(due, true);
         due[2] = due[3] = due[4] = due[9] = false;
         for (int time = 0; time < 16; time++) {
             int at = time;

@@ -1,3 +1,4 @@
+import java.util.Arrays;
 import java.util.NoSuchElementException;
 
 /** Promises 6 to 11: the calls that change meetings. */
@@ -63,7 +64,7 @@ public final class PlanningTest {
             {Integer.MIN_VALUE, 0, 0, 0, 1}, {0, 0, 0, Integer.MAX_VALUE, Integer.MAX_VALUE},
         };
         for (int[] a : wrong) {
-            checks.dueThrow("p6 ask" + java.util.Arrays.toString(a), ILLEGAL,
+            checks.dueThrow("p6 ask" + Arrays.toString(a), ILLEGAL,
                     () -> planner.ask(a[0], a[1], a[2], a[3], a[4]));
         }
         checks.due("p6 nothing was asked", 0, planner.meetingCount());
@@ -147,9 +148,13 @@ public final class PlanningTest {
             {Integer.MAX_VALUE, 1}, {1, Integer.MAX_VALUE}, {Integer.MIN_VALUE, 2},
         };
         for (int[] a : wrong) {
-            checks.dueThrow("p7 extend" + java.util.Arrays.toString(a), ILLEGAL,
+            checks.dueThrow("p7 extend" + Arrays.toString(a), ILLEGAL,
                     () -> planner.extend(0, a[0], a[1]));
         }
+        CalendaryPlanner early = new CalendaryPlanner();
+        early.ask(0, 0, 0, 0, 1);
+        checks.dueThrow("p7 15 days behind", ILLEGAL, () -> early.extend(0, 15, 1));
+        checks.due("p7 14 days behind", 2, early.extend(0, 14, 1));
         checks.dueThrow("p7 no such meeting", NO_SUCH, () -> planner.extend(1, 0, 0));
         checks.dueThrow("p7 meeting -1", NO_SUCH, () -> planner.extend(-1, 1, 1));
         checks.due("p7 nothing was extended", 1, planner.dateCount(0));
@@ -350,7 +355,7 @@ public final class PlanningTest {
             {Integer.MIN_VALUE, 0},
         };
         for (int[] a : wrong) {
-            checks.dueThrow("p11 move" + java.util.Arrays.toString(a), ILLEGAL,
+            checks.dueThrow("p11 move" + Arrays.toString(a), ILLEGAL,
                     () -> planner.move(0, 0, a[0], a[1]));
         }
         checks.dueThrow("p11 date 1", INDEX, () -> planner.move(0, 1, -1, 0));
@@ -378,6 +383,8 @@ public final class PlanningTest {
         dueRefusal("p11 no room", planner, 2, 1);
         checks.due("p11 refused, the day stays", 1, planner.dayOf(0, 1));
         checks.due("p11 refused, the room stays", 1, planner.roomOf(0, 1));
+        checks.due("p11 refused, its times stay used", 2, planner.usedTimes(1, 1));
+        checks.due("p11 refused, its people stay busy", 14, planner.freeTimes(2, 1));
         planner.cancel(0, 1);
         checks.dueThrow("p11 no room, cancelled", REFUSED, () -> planner.move(0, 1, 9, 0));
         checks.due("p11 refused, stays cancelled", true, planner.isCancelled(0, 1));
