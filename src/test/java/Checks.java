@@ -19,15 +19,28 @@ final class Checks {
         }
     }
 
-    /** The very class is compared: a subclass that the machine throws would not be as promised. */
-    void dueThrow(String what, Class<? extends RuntimeException> due, Supplier<?> call) {
-        Object got;
+    /** The call throws, and changes nothing, not even the latest refusal. */
+    void dueThrow(String what, CalendaryPlanner planner, Class<? extends RuntimeException> due,
+            Supplier<?> call) {
+        String refusal = Seen.refusalOf(planner);
+        dueUnchanged(what, planner, due, call);
+        due(what + ": the refusal then", refusal, Seen.refusalOf(planner));
+    }
+
+    /** The call is refused, and changes nothing but the latest refusal. */
+    void dueRefusal(String what, CalendaryPlanner planner, int reason, int detail,
+            Supplier<?> call) {
+        dueUnchanged(what, planner, UnsupportedOperationException.class, call);
+        due(what + ": reason and detail", reason + " " + detail, Seen.refusalOf(planner));
+    }
+
+    /** What the call answers, or the class of what it throws. */
+    static Object outcome(Supplier<?> call) {
         try {
-            got = call.get();
+            return call.get();
         } catch (RuntimeException e) {
-            got = e.getClass();
+            return e.getClass();
         }
-        due(what, due, got);
     }
 
     void end() {
@@ -35,5 +48,13 @@ final class Checks {
         if (wrong != 0) {
             System.exit(1);
         }
+    }
+
+    /** The very class is compared: a subclass that the machine throws would not be as promised. */
+    private void dueUnchanged(String what, CalendaryPlanner planner, Class<?> due,
+            Supplier<?> call) {
+        String before = Seen.of(planner);
+        due(what, due, outcome(call));
+        due(what + ": what is seen then", before, Seen.of(planner));
     }
 }

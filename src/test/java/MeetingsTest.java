@@ -3,19 +3,17 @@ import java.util.NoSuchElementException;
 /** Promises 12 to 23: what is asked about meetings, dates and refusals. */
 public final class MeetingsTest {
     private static final Class<NoSuchElementException> NO_SUCH = NoSuchElementException.class;
-    private static final Class<IllegalArgumentException> ILLEGAL = IllegalArgumentException.class;
     private static final Class<IllegalStateException> STATE = IllegalStateException.class;
-    private static final Class<IndexOutOfBoundsException> INDEX = IndexOutOfBoundsException.class;
 
     private static final Checks checks = new Checks("MeetingsTest");
 
     public static void main(String[] args) {
         countAndRanks();
+        ranksOfEight();
         hostAndAnswers();
+        everyHostAndOthers();
         expected();
         dates();
-        noSuchMeeting();
-        noSuchDate();
         refusals();
         checks.end();
     }
@@ -41,10 +39,46 @@ public final class MeetingsTest {
         checks.due("p12 two", 2, planner.meetingCount());
         checks.due("p13 rank 0 of two", 1, planner.meetingAt(0));
         checks.due("p13 rank 1 of two", 3, planner.meetingAt(1));
-        for (int rank : new int[] {-1, 2, Integer.MIN_VALUE, Integer.MAX_VALUE}) {
-            checks.dueThrow("p13 rank " + rank, NO_SUCH, () -> planner.meetingAt(rank));
+    }
+
+    /** Whichever of eight meetings is removed, the others keep their order. */
+    private static void ranksOfEight() {
+        for (int removed = 0; removed < 8; removed++) {
+            CalendaryPlanner planner = new CalendaryPlanner();
+            for (int day = 0; day < 8; day++) {
+                planner.ask(0, 0, day, 0, 1);
+            }
+            checks.due("p8 left without " + removed, 7, planner.remove(removed));
+            checks.due("p12 without " + removed, 7, planner.meetingCount());
+            for (int rank = 0; rank < 7; rank++) {
+                int due = rank < removed ? rank : rank + 1;
+                checks.due("p13 rank " + rank + " without " + removed, due,
+                        planner.meetingAt(rank));
+            }
+            checks.dueThrow("p13 rank 7 without " + removed, planner, NO_SUCH,
+                    () -> planner.meetingAt(7));
+            planner.ask(0, 0, 20, 0, 1);
+            checks.due("p13 a new one is the last", 8, planner.meetingAt(7));
         }
-        checks.dueThrow("p13 no meetings", NO_SUCH, () -> new CalendaryPlanner().meetingAt(0));
+    }
+
+    /** The host does not count among the others, whose answers are open at first. */
+    private static void everyHostAndOthers() {
+        CalendaryPlanner planner = new CalendaryPlanner();
+        for (int host = 0; host < 6; host++) {
+            for (int others = 0; others < 64; others++) {
+                String what = "host " + host + ", others " + others;
+                int meeting = planner.ask(host, others, 27, 0, 1);
+                checks.due("p14 " + what, host, planner.hostOf(meeting));
+                checks.due("p16 " + what, Integer.bitCount(others | 1 << host),
+                        planner.expected(meeting));
+                for (int person = 0; person < 6; person++) {
+                    char due = person == host ? 'h' : (others >> person) % 2 == 1 ? 'o' : '-';
+                    checks.due("p15 " + what, due, planner.answerOf(meeting, person));
+                }
+                planner.remove(meeting);
+            }
+        }
     }
 
     private static void hostAndAnswers() {
@@ -58,10 +92,6 @@ public final class MeetingsTest {
         }
         planner.answer(1, 0, 'o');
         checks.due("p15 open", 'o', planner.answerOf(1, 0));
-        for (int person : new int[] {-1, 6, 37, Integer.MIN_VALUE, Integer.MAX_VALUE}) {
-            checks.dueThrow("p15 person " + person, ILLEGAL, () -> planner.answerOf(1, person));
-        }
-        checks.dueThrow("p15 no meeting, no person", NO_SUCH, () -> planner.answerOf(0, 6));
     }
 
     private static void expected() {
@@ -88,53 +118,24 @@ public final class MeetingsTest {
         checks.due("p20 not cancelled", false, planner.isCancelled(1, 0));
         checks.due("p20 cancelled", true, planner.isCancelled(1, 1));
         checks.due("p21 room", 1, planner.roomOf(1, 0));
-        checks.dueThrow("p21 cancelled", STATE, () -> planner.roomOf(1, 1));
+        checks.dueThrow("p21 cancelled", planner, STATE, () -> planner.roomOf(1, 1));
         planner.answer(1, 0, 'n');
         checks.due("p21 it keeps its room", 1, planner.roomOf(1, 0));
         planner.move(1, 0, 2, 9);
         checks.due("p21 until it is moved", 0, planner.roomOf(1, 0));
     }
 
-    private static void noSuchMeeting() {
-        CalendaryPlanner planner = aPlanner();
-        for (int meeting : new int[] {0, 2, -1, Integer.MIN_VALUE, Integer.MAX_VALUE}) {
-            checks.dueThrow("p14 " + meeting, NO_SUCH, () -> planner.hostOf(meeting));
-            checks.dueThrow("p15 " + meeting, NO_SUCH, () -> planner.answerOf(meeting, 0));
-            checks.dueThrow("p16 " + meeting, NO_SUCH, () -> planner.expected(meeting));
-            checks.dueThrow("p17 " + meeting, NO_SUCH, () -> planner.dateCount(meeting));
-            checks.dueThrow("p18 " + meeting, NO_SUCH, () -> planner.dayOf(meeting, -1));
-            checks.dueThrow("p19 " + meeting, NO_SUCH, () -> planner.timeOf(meeting, -1));
-            checks.dueThrow("p20 " + meeting, NO_SUCH, () -> planner.isCancelled(meeting, -1));
-            checks.dueThrow("p21 " + meeting, NO_SUCH, () -> planner.roomOf(meeting, -1));
-        }
-    }
-
-    private static void noSuchDate() {
-        CalendaryPlanner planner = aPlanner();
-        for (int date : new int[] {-1, 3, 6, Integer.MIN_VALUE, Integer.MAX_VALUE}) {
-            checks.dueThrow("p18 date " + date, INDEX, () -> planner.dayOf(1, date));
-            checks.dueThrow("p19 date " + date, INDEX, () -> planner.timeOf(1, date));
-            checks.dueThrow("p20 date " + date, INDEX, () -> planner.isCancelled(1, date));
-            checks.dueThrow("p21 date " + date, INDEX, () -> planner.roomOf(1, date));
-        }
-    }
-
+    /** What each refusal tells is in RefusalsTest. */
     private static void refusals() {
         CalendaryPlanner planner = aPlanner();
-        checks.dueThrow("p22 nothing refused", NO_SUCH, planner::refusalReason);
-        checks.dueThrow("p23 nothing refused", NO_SUCH, planner::refusalDetail);
-        checks.dueThrow("p22 busy", UnsupportedOperationException.class,
-                () -> planner.ask(3, 0, 2, 10, 1));
-        checks.due("p22 reason 1", 1, planner.refusalReason());
-        checks.due("p23 person 3", 3, planner.refusalDetail());
-        planner.ask(3, 0, 2, 11, 1);
-        checks.dueThrow("p22 out of range", ILLEGAL, () -> planner.ask(0, 0, 28, 0, 1));
-        checks.due("p22 the latest stays", 1, planner.refusalReason());
-        checks.due("p23 the latest stays", 3, planner.refusalDetail());
+        checks.dueThrow("p22 nothing refused", planner, NO_SUCH, planner::refusalReason);
+        checks.dueThrow("p23 nothing refused", planner, NO_SUCH, planner::refusalDetail);
+        checks.dueRefusal("p22 busy", planner, 1, 3, () -> planner.ask(3, 0, 2, 10, 1));
+        checks.due("p22 reason", 1, planner.refusalReason());
+        checks.due("p22 the same again", 1, planner.refusalReason());
+        checks.due("p23 detail", 3, planner.refusalDetail());
+        checks.due("p23 the same again", 3, planner.refusalDetail());
         planner.setRoom(3, 0, 1);
-        checks.dueThrow("p22 no room", UnsupportedOperationException.class,
-                () -> planner.ask(0, 63, 20, 0, 1));
-        checks.due("p22 reason 2", 2, planner.refusalReason());
-        checks.due("p23 index 0", 0, planner.refusalDetail());
+        checks.dueRefusal("p22 no room", planner, 2, 0, () -> planner.ask(0, 63, 20, 0, 1));
     }
 }

@@ -1,8 +1,5 @@
-/** Promises 1 to 5. */
+/** Promises 1 to 5; their bounds are in BoundsTest. */
 public final class RoomsTest {
-    private static final Class<IllegalArgumentException> ILLEGAL = IllegalArgumentException.class;
-    private static final int[] OUT_OF_INT = {-1, Integer.MIN_VALUE, Integer.MAX_VALUE};
-
     private static final Checks checks = new Checks("RoomsTest");
 
     public static void main(String[] args) {
@@ -25,28 +22,28 @@ public final class RoomsTest {
         checks.due("p1 gap at first", 1, planner.setGap(1));
         CalendaryPlanner other = new CalendaryPlanner();
         planner.setRoom(0, 6, 1);
+        planner.setGap(3);
         planner.ask(0, 0, 0, 0, 1);
         checks.due("p1 objects share no rooms", 2, other.seatsOf(0));
+        checks.due("p1 objects share no gap", 1, other.setGap(0));
         checks.due("p1 objects share no meetings", 0, other.meetingCount());
+        checks.due("p1 objects share no numbers", 0, other.ask(0, 0, 0, 0, 1));
     }
 
     private static void setRoom() {
         CalendaryPlanner planner = new CalendaryPlanner();
-        checks.due("p2 seats before", 4, planner.setRoom(2, 0, 0));
-        checks.due("p2 seats before again", 0, planner.setRoom(2, 6, 1));
-        checks.due("p2 seats set", 6, planner.seatsOf(2));
-        checks.due("p2 house set", 1, planner.houseOf(2));
-        checks.dueThrow("p2 room 4", ILLEGAL, () -> planner.setRoom(4, 1, 0));
-        checks.dueThrow("p2 7 seats", ILLEGAL, () -> planner.setRoom(2, 7, 0));
-        checks.dueThrow("p2 house 2", ILLEGAL, () -> planner.setRoom(2, 1, 2));
-        for (int wrong : OUT_OF_INT) {
-            checks.dueThrow("p2 room " + wrong, ILLEGAL, () -> planner.setRoom(wrong, 1, 0));
-            checks.dueThrow("p2 seats " + wrong, ILLEGAL, () -> planner.setRoom(2, wrong, 0));
-            checks.dueThrow("p2 house " + wrong, ILLEGAL, () -> planner.setRoom(2, 1, wrong));
+        int before = 4;
+        for (int seats = 0; seats <= 6; seats++) {
+            for (int house = 0; house <= 1; house++) {
+                String what = seats + " seats in house " + house;
+                checks.due("p2 before " + what, before, planner.setRoom(2, seats, house));
+                checks.due("p2, p4 " + what, seats, planner.seatsOf(2));
+                checks.due("p2, p5 " + what, house, planner.houseOf(2));
+                before = seats;
+            }
         }
-        checks.due("p2 seats kept when it threw", 6, planner.seatsOf(2));
-        checks.due("p2 house kept when it threw", 1, planner.houseOf(2));
-        checks.due("p2 other rooms kept", 3, planner.seatsOf(1));
+        checks.due("p2 other rooms' seats stay", 3, planner.seatsOf(1));
+        checks.due("p2 other rooms' houses stay", 0, planner.houseOf(1));
 
         CalendaryPlanner kept = new CalendaryPlanner();
         kept.ask(0, 2, 0, 0, 1);
@@ -57,13 +54,12 @@ public final class RoomsTest {
 
     private static void setGap() {
         CalendaryPlanner planner = new CalendaryPlanner();
-        checks.due("p3 gap before", 1, planner.setGap(3));
-        checks.due("p3 gap before again", 3, planner.setGap(0));
-        checks.dueThrow("p3 gap 4", ILLEGAL, () -> planner.setGap(4));
-        for (int wrong : OUT_OF_INT) {
-            checks.dueThrow("p3 gap " + wrong, ILLEGAL, () -> planner.setGap(wrong));
+        int before = 1;
+        for (int gap = 0; gap <= 3; gap++) {
+            checks.due("p3 gap before " + gap, before, planner.setGap(gap));
+            before = gap;
         }
-        checks.due("p3 gap kept when it threw", 0, planner.setGap(2));
+        checks.due("p3 the same gap again", 3, planner.setGap(3));
         gapLeavesOutRooms();
     }
 
@@ -83,14 +79,12 @@ public final class RoomsTest {
 
     private static void seatsOfAndHouseOf() {
         CalendaryPlanner planner = new CalendaryPlanner();
-        planner.setRoom(1, 5, 1);
-        checks.due("p4 seats", 5, planner.seatsOf(1));
-        checks.due("p5 house", 1, planner.houseOf(1));
-        checks.dueThrow("p4 room 4", ILLEGAL, () -> planner.seatsOf(4));
-        checks.dueThrow("p5 room 4", ILLEGAL, () -> planner.houseOf(4));
-        for (int wrong : OUT_OF_INT) {
-            checks.dueThrow("p4 room " + wrong, ILLEGAL, () -> planner.seatsOf(wrong));
-            checks.dueThrow("p5 room " + wrong, ILLEGAL, () -> planner.houseOf(wrong));
+        for (int room = 0; room < 4; room++) {
+            planner.setRoom(room, 5 - room, room % 2);
+        }
+        for (int room = 0; room < 4; room++) {
+            checks.due("p4 seats of " + room, 5 - room, planner.seatsOf(room));
+            checks.due("p5 house of " + room, room % 2, planner.houseOf(room));
         }
     }
 }
