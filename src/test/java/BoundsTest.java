@@ -70,7 +70,9 @@ public final class BoundsTest {
 
     private static void allowed(String what, CalendaryPlanner planner, int number, Call call) {
         Object got = Checks.outcome(() -> call.on(planner, number));
-        checks.due(what + " " + number + " is allowed: " + got, false, got instanceof Class);
+        boolean answered = got instanceof Integer || got instanceof Character
+                || got instanceof Boolean;
+        checks.due(what + " " + number + " is allowed: " + got, true, answered);
     }
 
     private static void ruledOut(String what, CalendaryPlanner planner, int number,
@@ -280,7 +282,7 @@ public final class BoundsTest {
         try {
             return planner.meetingOf(0, day, time);
         } catch (NoSuchElementException e) {
-            return "free";
+            return -1;
         }
     }
 

@@ -39,8 +39,19 @@ final class Checks {
         try {
             return call.get();
         } catch (RuntimeException e) {
-            return e.getClass();
+            return kindOf(e);
         }
+    }
+
+    /**
+     * The class of what a planner throws by a statement of its own; what the library throws for it,
+     * such as a list's exception for a wrong index, is of no class that could be due.
+     */
+    static Object kindOf(Throwable thrown) {
+        StackTraceElement[] trace = thrown.getStackTrace();
+        boolean own = trace.length > 0 && trace[0].getClassName().matches(
+                "(CalendaryPlanner|PlainPlanner)(\\$.*)?");
+        return own ? thrown.getClass() : "by the machine: " + thrown;
     }
 
     void end() {

@@ -84,7 +84,8 @@ public final class ComparedRunsTest {
         for (int call = 0; call < CALLS; call++) {
             Method method = methods.get(draw(methods.size()));
             Object[] arguments = arguments(ARGUMENTS.get(method.getName()));
-            Method same = PlainPlanner.class.getMethod(method.getName(), method.getParameterTypes());
+            Method same = PlainPlanner.class.getMethod(method.getName(),
+                    method.getParameterTypes());
             String what = "run " + run + ", call " + call + ": " + method.getName()
                     + Arrays.toString(arguments);
             checks.due(what, outcome(same, plain, arguments), outcome(method, planner, arguments));
@@ -96,7 +97,7 @@ public final class ComparedRunsTest {
         try {
             return method.invoke(planner, arguments);
         } catch (InvocationTargetException e) {
-            return e.getCause().getClass();
+            return Checks.kindOf(e.getCause());
         }
     }
 

@@ -128,8 +128,10 @@ public final class PlanningTest {
         checks.due("p8 left", 1, planner.remove(0));
         checks.dueThrow("p8 again", planner, NO_SUCH, () -> planner.remove(0));
         checks.dueThrow("p8 not yet there", planner, NO_SUCH, () -> planner.remove(2));
-        checks.due("p8 the room is free", 0, planner.usedTimes(0, 0));
-        checks.due("p8 the person is free", 16, planner.freeTimes(0, 2));
+        for (int day = 0; day < 4; day++) {
+            checks.due("p8 the room is free on day " + day, 0, planner.usedTimes(0, day));
+            checks.due("p8 the person is free on day " + day, 16, planner.freeTimes(0, day));
+        }
         checks.due("p8 the other stays", 1, planner.meetingOf(1, 0, 1));
         checks.due("p8 none left", 0, planner.remove(1));
     }

@@ -80,12 +80,16 @@ public final class RefusalsTest {
                 int more = 6 - before;
                 String what = "p7 " + before + " dates, no room for date " + index;
                 checks.dueRefusal(what, planner, 2, index, () -> planner.extend(0, 2, more));
+                planner.cancel(0, 0);
+                checks.dueRefusal(what + ", date 0 is cancelled", planner, 2, index,
+                        () -> planner.extend(0, 2, more));
                 planner.remove(3);
                 checks.due(what + ", then one", 6, planner.extend(0, 2, more));
             }
         }
     }
 
+    /** Reason 1 goes before reason 2, even where the date that has no room is an earlier one. */
     private static void busyGoesBeforeNoRoom() {
         CalendaryPlanner planner = new CalendaryPlanner();
         planner.ask(0, 2, 0, 0, 2);
